@@ -23,6 +23,10 @@ final class Check {
         }
     }
 
+    static int wrongSoFar() {
+        return wrong;
+    }
+
     static void hold(String what, boolean holds) {
         if (!holds) {
             wrong++;
