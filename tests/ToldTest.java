@@ -164,6 +164,7 @@ public final class ToldTest {
         Check.due("reason(0, -9)", x.reason(0, -9), 0);
         Check.due("reason(0, -10)", x.reason(0, -10), 1);
         Check.due("reason(39, -30)", x.reason(39, -30), 1);
+        Check.due("reason(1, -9), a push of 1", x.reason(1, -9), 3);
         x.build(6, 4);
         Check.due("reason below the sill", x.reason(5, 0), 0);
         Check.due("reason at the sill", x.reason(6, 0), 2);
@@ -309,6 +310,7 @@ public final class ToldTest {
         x.build(1, 9);
         Check.due("where a sill stops it", x.bestSill(9, 0), SaltWedge.NONE);
         bestSillOfWedgeWithoutEnd();
+        Check.refused("bestSill(0, 0)", ToldTest::some, y -> y.bestSill(0, 0), SaltWedge.BAD_VALUE);
         Check.refused("bestSill(0, 31)", ToldTest::some, y -> y.bestSill(0, 31), SaltWedge.BAD_VALUE);
         Check.refused("bestSill(61, 0)", ToldTest::some, y -> y.bestSill(61, 0), SaltWedge.BAD_VALUE);
         Check.refused("bestSill(5, -31)", ToldTest::some, y -> y.bestSill(5, -31), SaltWedge.BAD_VALUE);

@@ -3,6 +3,7 @@ public final class WellsTest {
     public static void main(String[] args) {
         sink();
         fillIn();
+        fillInThoseThatRest();
         setRate();
         tide();
         tidesAreBounded();
@@ -89,6 +90,41 @@ public final class WellsTest {
         Check.refused("fillIn(-1)", WellsTest::some, y -> y.fillIn(-1), SaltWedge.UNKNOWN);
         Check.refused("fillIn(3)", WellsTest::some, y -> y.fillIn(3), SaltWedge.UNKNOWN);
         Check.refused("fillIn(6)", WellsTest::six, y -> y.fillIn(6), SaltWedge.UNKNOWN);
+    }
+
+    private static void fillInThoseThatRest() {
+        SaltWedge x = new SaltWedge();
+        x.set(1, 0);
+        x.set(2, 60);
+        for (int number = 0; number < 6; number++) {
+            x.sink(3 * number, number % 2 == 0 ? 30 : 1);
+        }
+        x.tide(30, 2);
+        for (int number = 0; number < 6; number++) {
+            Check.due("two tides: salt", x.well(number, 2), number % 2 == 0 ? 60 : 2);
+        }
+        Check.due("fillIn of one that rests", x.fillIn(0), 60);
+        int[] rests = {0, 1, 0, 1, 0};
+        for (int number = 0; number < 5; number++) {
+            Check.due("fillIn: rests " + number, x.well(number, 3), rests[number]);
+            Check.due("fillIn: turned " + number, x.well(number, 6), rests[number]);
+        }
+        x.sink(16, 9);
+        Check.due("fillIn: shared with one behind", x.well(4, 4), 0);
+        Check.due("fillIn: the new one shares", x.well(5, 4), 8);
+        x.fillIn(1);
+        x.setRate(3, 20);
+        Check.due("fillIn: the last one counts once", x.well(3, 4), 11);
+        x.fillIn(4);
+        x.fillIn(3);
+        Check.due("fillIn: the last one rests", x.well(2, 3), 1);
+        x.fillIn(2);
+        x.sink(12, 5);
+        x.sink(1, 5);
+        for (int what : new int[] {2, 3, 5, 6}) {
+            Check.due("fillIn: the place of one that rested", x.well(2, what), 0);
+            Check.due("fillIn: the place of one with salt", x.well(3, what), 0);
+        }
     }
 
     /** Promise 8. */
