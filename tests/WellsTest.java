@@ -97,6 +97,19 @@ public final class WellsTest {
         x.set(1, 0);
         x.set(2, 60);
         for (int number = 0; number < 6; number++) {
+            x.sink(3 * number, 30);
+        }
+        x.tide(30, 2);
+        Check.due("six that rest", x.count(5), 6);
+        x.fillIn(3);
+        x.sink(1, 5);
+        for (int what : new int[] {2, 3, 5, 6}) {
+            Check.due("fillIn: the place of the last one", x.well(5, what), 0);
+        }
+        for (int number = 0; number < 6; number++) {
+            x.fillIn(0);
+        }
+        for (int number = 0; number < 6; number++) {
             x.sink(3 * number, number % 2 == 0 ? 30 : 1);
         }
         x.tide(30, 2);
