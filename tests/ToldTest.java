@@ -1,34 +1,24 @@
-/** Promises 17 to 26: what is told. */
+/** Promises 17 to 19 and 26, what stands: cell, well, reach, count. */
 public final class ToldTest {
     public static void main(String[] args) {
         cell();
+        cellErrors();
         well();
+        wellErrors();
         reach();
-        mark();
-        stopCell();
-        reason();
-        restsIn();
-        leastFlow();
-        bestSill();
         count();
-        nothingIsChanged();
+        countErrors();
         Check.end();
     }
 
-    /** Wells of which one rests, sills, a wedge of 20 cells, a snapshot, a stop. */
-    private static void some(SaltWedge x) {
-        x.sink(1, 30);
-        x.sink(5, 4);
-        x.sink(6, 9);
-        x.build(9, 8);
-        x.tide(30, 5);
-        x.keep();
-        Check.perform(x, "t0;s3=60");
-        x.dig(30, 11);
+    /** The call tells the number, and changes nothing. */
+    private static void tells(String what, Check.Call call, int want) {
+        Check.refused(what, Check::some, call, want);
     }
 
-    /** Promise 17. */
     private static void cell() {
+        Doc.section("Promise 17: cell");
+        Doc.says("`int cell(int cell, int what)`:");
         SaltWedge x = new SaltWedge();
         x.dig(7, 33);
         x.build(7, 3);
@@ -38,323 +28,206 @@ public final class ToldTest {
         x.tide(-30, 1);
         x.tide(0, 1);
         int[] wants = {33, 3, 0, 1, 0};
-        for (int what = 0; what < wants.length; what++) {
-            Check.due("cell(7, " + what + ")", x.cell(7, what), wants[what]);
-        }
         int[] below = {20, 0, 4, SaltWedge.NONE, 3};
-        for (int what = 0; what < below.length; what++) {
+        for (int what = 0; what <= 4; what++) {
+            Check.due("cell(7, " + what + ")", x.cell(7, what), wants[what]);
             Check.due("cell(6, " + what + ")", x.cell(6, what), below[what]);
         }
-        Check.due("cell(30, 3)", x.cell(30, 3), 0);
-        Check.refused("cell(-1, 0)", ToldTest::some, y -> y.cell(-1, 0), SaltWedge.UNKNOWN);
-        Check.refused("cell(40, 5)", ToldTest::some, y -> y.cell(40, 5), SaltWedge.UNKNOWN);
-        Check.refused("cell(0, -1)", ToldTest::some, y -> y.cell(0, -1), SaltWedge.BAD_VALUE);
-        Check.refused("cell(39, 5)", ToldTest::some, y -> y.cell(39, 5), SaltWedge.BAD_VALUE);
+
+        Doc.says("- `cell`: 0 to 39");
+        tells("cell(0, 0)", y -> y.cell(0, 0), 20);
+        tells("cell(39, 0)", y -> y.cell(39, 0), 20);
+        Check.refusedBeyond("cell(.., 0)", (y, cell) -> y.cell(cell, 0), 0, 39, SaltWedge.UNKNOWN);
+
+        Doc.says("- `what`: 0 for its depth, 1 for its sill, 2 for the height of the wedge, 3 for the well beside it "
+            + "(NONE without one), 4 for tides so far behind which it had salt water");
+        tells("its depth", y -> y.cell(30, 0), 11);
+        tells("its sill", y -> y.cell(9, 1), 8);
+        tells("the height of the wedge", y -> y.cell(9, 2), 11);
+        tells("the well 0", y -> y.cell(1, 3), 0);
+        tells("the well 3", y -> y.cell(12, 3), 3);
+        tells("no well", y -> y.cell(0, 3), SaltWedge.NONE);
+        tells("five tides", y -> y.cell(19, 4), 5);
+        tells("no tides", y -> y.cell(20, 4), 0);
+        SaltWedge z = new SaltWedge();
+        z.tide(-9, 4);
+        Check.due("tides that come back count", z.tide(-30, 7) + z.tide(-9, 2), 1);
+        Check.due("four and two", z.cell(0, 4), 6);
     }
 
-    /** Promise 18. */
+    private static void cellErrors() {
+        Doc.says("Returns the number;");
+        tells("cell(25, 1)", x -> x.cell(25, 1), 8);
+
+        Doc.says("UNKNOWN;");
+        tells("cell(40, 5)", x -> x.cell(40, 5), SaltWedge.UNKNOWN);
+        tells("cell(-1, -1)", x -> x.cell(-1, -1), SaltWedge.UNKNOWN);
+
+        Doc.says("BAD_VALUE.");
+        Check.refusedBeyond("cell(0, ..)", (x, what) -> x.cell(0, what), 0, 4, SaltWedge.BAD_VALUE);
+        Check.refusedBeyond("cell(39, ..)", (x, what) -> x.cell(39, what), 0, 4, SaltWedge.BAD_VALUE);
+    }
+
     private static void well() {
-        SaltWedge x = new SaltWedge();
-        some(x);
-        int[][] wants = {{1, 30, 56, 1, 0, 90, 1}, {5, 4, 0, 0, 0, 20, 0}, {6, 9, 0, 0, 5, 45, 0}};
-        for (int number = 0; number < 3; number++) {
-            for (int what = 0; what < 7; what++) {
+        Doc.section("Promise 18: well");
+        Doc.says("`int well(int well, int what)`:");
+        SaltWedge x = Check.made(Check::some);
+        int[][] wants = {{1, 30, 56, 1, 0, 90, 1}, {5, 4, 0, 0, 0, 20, 0}, {6, 9, 0, 0, 5, 45, 0},
+            {12, 15, 12, 0, 15, 75, 0}};
+        for (int number = 0; number < 4; number++) {
+            for (int what = 0; what <= 6; what++) {
                 Check.due("well(" + number + ", " + what + ")", x.well(number, what), wants[number][what]);
             }
         }
-        Check.refused("well(-1, 0)", ToldTest::some, y -> y.well(-1, 0), SaltWedge.UNKNOWN);
-        Check.refused("well(3, 7)", ToldTest::some, y -> y.well(3, 7), SaltWedge.UNKNOWN);
-        Check.refused("well(0, -1)", ToldTest::some, y -> y.well(0, -1), SaltWedge.BAD_VALUE);
-        Check.refused("well(2, 7)", ToldTest::some, y -> y.well(2, 7), SaltWedge.BAD_VALUE);
+
+        Doc.says("- `well`: a well");
+        tells("well(0, 0)", y -> y.well(0, 0), 1);
+        tells("well(3, 0)", y -> y.well(3, 0), 12);
+        Check.refusedBeyond("well(.., 0)", (y, well) -> y.well(well, 0), 0, 3, SaltWedge.UNKNOWN);
+        SaltWedge six = new SaltWedge();
+        for (int number = 0; number < 6; number++) {
+            Check.due("well(" + number + ", 0) of fewer", six.well(number, 0), SaltWedge.UNKNOWN);
+            six.sink(number, 5);
+            Check.due("well(" + number + ", 0)", six.well(number, 0), number);
+        }
+        Check.due("well(6, 0) of six", six.well(6, 0), SaltWedge.UNKNOWN);
+
+        Doc.says("- `what`: 0 for its cell, 1 for its rate, 2 for its salt, 3 for whether it rests (1, otherwise 0), 4 "
+            + "for its cone (0 if it rests), 5 for water that it drew so far (its rate for each tide in which it did "
+            + "not rest), 6 for how often it turned salt so far");
+        SaltWedge y = new SaltWedge();
+        y.set(2, 60);
+        y.sink(0, 30);
+        y.tide(0, 3);
+        Check.due("it rests", y.well(0, 3), 1);
+        Check.due("the cone of one that rests", y.well(0, 4), 0);
+        Check.due("its water, with the tide in which it turned", y.well(0, 5), 90);
+        y.setRate(0, 7);
+        y.tide(0, 30);
+        Check.due("its water, at rest", y.well(0, 5), 90);
+        y.setRate(0, 30);
+        y.tide(0, 1);
+        Check.due("its water, with a new rate", y.well(0, 5), 120);
+        Check.due("it turned once", y.well(0, 6), 1);
+        y.tide(0, 2);
+        Check.due("it turned twice", y.well(0, 6), 2);
     }
 
-    /** Promise 19. */
+    private static void wellErrors() {
+        Doc.says("Returns the number;");
+        tells("well(2, 5)", x -> x.well(2, 5), 45);
+
+        Doc.says("UNKNOWN;");
+        tells("well(4, 7)", x -> x.well(4, 7), SaltWedge.UNKNOWN);
+        tells("well(-1, -1)", x -> x.well(-1, -1), SaltWedge.UNKNOWN);
+        Check.refused("well(0, 0) of none", Check::fresh, x -> x.well(0, 0), SaltWedge.UNKNOWN);
+
+        Doc.says("BAD_VALUE.");
+        Check.refusedBeyond("well(0, ..)", (x, what) -> x.well(0, what), 0, 6, SaltWedge.BAD_VALUE);
+        Check.refusedBeyond("well(3, ..)", (x, what) -> x.well(3, what), 0, 6, SaltWedge.BAD_VALUE);
+    }
+
     private static void reach() {
+        Doc.section("Promise 19: reach");
+        Doc.says("`int reach()`: Tells how far the wedge reaches.");
+        tells("reach()", SaltWedge::reach, 19);
+
+        Doc.says("Returns the greatest cell with salt water;");
         SaltWedge x = new SaltWedge();
-        Check.due("reach of nothing", x.reach(), SaltWedge.NONE);
         x.tide(-9, 1);
-        Check.due("reach of the cell 0", x.reach(), 0);
+        Check.due("the cell 0", x.reach(), 0);
         x.tide(30, 2);
-        Check.due("reach", x.reach(), 19);
+        Check.due("a height of 1 in the cell 19", x.reach(), 19);
         x.build(3, 20);
         x.tide(30, 1);
-        Check.due("reach, with less wedge farther down", x.reach(), 14);
+        Check.due("farther up than a sill", x.reach(), 14);
         x.tide(30, 1);
-        Check.due("reach, behind a sill", x.reach(), 2);
+        Check.due("below the sill", x.reach(), 2);
         x.build(3, 0);
         x.set(1, 0);
         x.tide(0, 1);
-        Check.due("reach of the cell 39", x.reach(), 39);
+        Check.due("the cell 39", x.reach(), 39);
+
+        Doc.says("NONE if there is none.");
+        Check.refused("reach() at first", Check::fresh, SaltWedge::reach, SaltWedge.NONE);
         x.tide(-30, 99);
-        Check.due("reach of nothing any more", x.reach(), SaltWedge.NONE);
+        Check.due("reach() of none any more", x.reach(), SaltWedge.NONE);
     }
 
-    /** Promise 20. */
-    private static void mark() {
-        SaltWedge x = new SaltWedge();
-        x.set(0, 60);
-        x.set(1, 3);
-        x.dig(2, 9);
-        x.dig(3, 60);
-        x.build(4, 3);
-        x.build(5, 0);
-        x.dig(0, 60);
-        x.dig(1, 60);
-        int[] marks = {60, 57, 9, 6, 0, 0};
-        for (int cell = 0; cell < marks.length; cell++) {
-            Check.due("mark(" + cell + ", 30)", x.mark(cell, 30), marks[cell]);
-        }
-        x.build(4, 2);
-        Check.due("mark above the sill", x.mark(4, 30), 3);
-        Check.due("mark that ran out", x.mark(5, 30), 0);
-        Check.due("mark(0, -30)", x.mark(0, -30), 20);
-        Check.due("mark(39, 0)", x.mark(39, 0), 0);
-        x.flow(80);
-        Check.due("mark(0, 20), no push", x.mark(0, 20), 0);
-        Check.due("mark(0, 21)", x.mark(0, 21), 1);
-        Check.due("mark(0, -30), less than none", x.mark(0, -30), 0);
-        x.set(1, 0);
-        x.build(4, 0);
-        Check.due("mark(39, 30) of a wedge without end", x.mark(39, 30), 9);
-        Check.due("a sill is held against what is not bounded yet", sillAsHighAsTheDepth().mark(1, 0), 10);
-        Check.refused("mark(-1, 0)", ToldTest::some, y -> y.mark(-1, 0), SaltWedge.UNKNOWN);
-        Check.refused("mark(40, 31)", ToldTest::some, y -> y.mark(40, 31), SaltWedge.UNKNOWN);
-        Check.refused("mark(0, -31)", ToldTest::some, y -> y.mark(0, -31), SaltWedge.BAD_VALUE);
-        Check.refused("mark(0, 31)", ToldTest::some, y -> y.mark(0, 31), SaltWedge.BAD_VALUE);
-    }
-
-    /** The mark would be 19 in the cell 1, of which the depth and the sill are 10. */
-    private static SaltWedge sillAsHighAsTheDepth() {
-        SaltWedge x = new SaltWedge();
-        x.flow(0);
-        x.dig(1, 10);
-        x.build(1, 10);
-        return x;
-    }
-
-    /** Promise 21. */
-    private static void stopCell() {
-        SaltWedge x = new SaltWedge();
-        Check.due("stopCell(0)", x.stopCell(0), 10);
-        Check.due("stopCell(30)", x.stopCell(30), 20);
-        Check.due("stopCell(-9)", x.stopCell(-9), 1);
-        Check.due("stopCell(-10)", x.stopCell(-10), 0);
-        Check.due("stopCell(-30)", x.stopCell(-30), 0);
-        x.build(6, 4);
-        Check.due("a sill as high as the mark", x.stopCell(0), 6);
-        Check.due("a sill lower than the mark", x.stopCell(1), 11);
-        x.set(1, 0);
-        Check.due("a sill lower than a wedge without end", x.stopCell(0), SaltWedge.NONE);
-        Check.due("a wedge of 1 without end", x.stopCell(-9), 6);
-        x.build(39, 20);
-        Check.due("the last cell", x.stopCell(30), 39);
-        Check.due("heights do not count", x.tide(30, 99), 39);
-        Check.due("the last cell, behind tides", x.stopCell(30), 39);
-        Check.refused("stopCell(-31)", ToldTest::some, y -> y.stopCell(-31), SaltWedge.BAD_VALUE);
-        Check.refused("stopCell(31)", ToldTest::some, y -> y.stopCell(31), SaltWedge.BAD_VALUE);
-    }
-
-    /** Promise 22. */
-    private static void reason() {
-        SaltWedge x = new SaltWedge();
-        Check.due("reason(0, 0)", x.reason(0, 0), 0);
-        Check.due("reason(9, 0)", x.reason(9, 0), 0);
-        Check.due("reason(10, 0)", x.reason(10, 0), 3);
-        Check.due("reason(39, 0)", x.reason(39, 0), 3);
-        Check.due("reason(0, -9)", x.reason(0, -9), 0);
-        Check.due("reason(0, -10)", x.reason(0, -10), 1);
-        Check.due("reason(39, -30)", x.reason(39, -30), 1);
-        Check.due("reason(1, -9), a push of 1", x.reason(1, -9), 3);
-        x.build(6, 4);
-        Check.due("reason below the sill", x.reason(5, 0), 0);
-        Check.due("reason at the sill", x.reason(6, 0), 2);
-        Check.due("reason farther up than the sill", x.reason(8, 0), 2);
-        Check.due("reason over the sill", x.reason(6, 1), 0);
-        Check.due("reason where it ran out behind the sill", x.reason(11, 1), 3);
-        Check.due("reason where it ran out before the sill", x.reason(6, -5), 3);
-        Check.due("reason where it ran out at the sill", x.reason(6, -4), 3);
-        Check.due("reason where 1 is left at the sill", x.reason(6, -3), 2);
-        x.build(0, 20);
-        Check.due("reason of a sill in the cell 0", x.reason(0, 10), 2);
-        Check.due("reason of a sill in the cell 0, without a push", x.reason(0, -10), 1);
-        x.set(1, 9);
-        x.build(0, 0);
-        x.build(6, 0);
-        Check.due("reason of a steep one", x.reason(2, 0), 3);
-        Check.refused("reason(-1, 0)", ToldTest::some, y -> y.reason(-1, 0), SaltWedge.UNKNOWN);
-        Check.refused("reason(40, 31)", ToldTest::some, y -> y.reason(40, 31), SaltWedge.UNKNOWN);
-        Check.refused("reason(0, -31)", ToldTest::some, y -> y.reason(0, -31), SaltWedge.BAD_VALUE);
-        Check.refused("reason(0, 31)", ToldTest::some, y -> y.reason(0, 31), SaltWedge.BAD_VALUE);
-    }
-
-    /** Promise 23. */
-    private static void restsIn() {
-        SaltWedge x = new SaltWedge();
-        x.sink(0, 30);
-        Check.due("restsIn(0, 0)", x.restsIn(0, 0), 3);
-        Check.due("restsIn(0, 30)", x.restsIn(0, 30), 3);
-        Check.due("restsIn(0, -30)", x.restsIn(0, -30), 5);
-        x.setRate(0, 11);
-        x.set(2, 60);
-        Check.due("1 in each tide", x.restsIn(0, 0), 50);
-        x.setRate(0, 10);
-        Check.due("nothing in each tide", x.restsIn(0, 0), SaltWedge.NONE);
-        x.sink(1, 1);
-        x.setRate(0, 12);
-        Check.due("shared", x.restsIn(0, 0), 50);
-        x.tide(0, 7);
-        Check.due("shared, 7 of it behind it", x.restsIn(0, 0), 43);
-        x.tide(0, 42);
-        Check.due("shared, the last one", x.restsIn(0, 0), 1);
-        Check.due("restsIn does not let it rest", x.well(0, 3), 0);
-        x.tide(0, 1);
-        Check.due("it rests now", x.restsIn(0, 0), SaltWedge.NOT_POSSIBLE);
-        Check.due("the other one", x.restsIn(1, 0), SaltWedge.NONE);
-        slowRests();
-        slowestRest();
-        Check.refused("restsIn(-1, 0)", ToldTest::some, y -> y.restsIn(-1, 0), SaltWedge.UNKNOWN);
-        Check.refused("restsIn(3, 31)", ToldTest::some, y -> y.restsIn(3, 31), SaltWedge.UNKNOWN);
-        Check.refused("restsIn(0, -31)", ToldTest::some, y -> y.restsIn(0, -31), SaltWedge.BAD_VALUE);
-        Check.refused("restsIn(0, 31)", ToldTest::some, y -> y.restsIn(0, 31), SaltWedge.BAD_VALUE);
-        Check.refused("restsIn(0, 0)", ToldTest::some, y -> y.restsIn(0, 0), SaltWedge.NOT_POSSIBLE);
-    }
-
-    /** A well that gets salt only while its neighbour rests, whole rests long, up to 300 tides. */
-    private static void slowRests() {
-        for (int other = 1; other <= 30; other++) {
-            for (int rate = 1; rate <= 30; rate++) {
-                SaltWedge x = new SaltWedge();
-                x.set(1, 0);
-                x.sink(1, rate);
-                x.sink(2, other);
-                slowRest(x, "neighbours of " + rate + " and " + other);
-            }
-        }
-    }
-
-    /** It rests with the 301st tide, of which the first one brings no well any salt. */
-    private static void slowestRest() {
-        SaltWedge x = new SaltWedge();
-        x.set(1, 0);
-        x.set(2, 10);
-        x.sink(1, 2);
-        x.sink(0, 3);
-        x.sink(2, 5);
-        Check.due("the 301st tide", x.restsIn(0, 30), SaltWedge.NONE);
-        x.tide(30, 1);
-        Check.due("the 300th tide", x.restsIn(0, 30), 300);
-        x.tide(30, 99);
-        Check.due("the 201st tide", x.restsIn(0, 30), 201);
-    }
-
-    private static void slowRest(SaltWedge x, String what) {
-        int told = x.restsIn(0, 30);
-        int seen = SaltWedge.NONE;
-        for (int number = 1; number <= 300 && seen == SaltWedge.NONE; number++) {
-            x.tide(30, 1);
-            if (x.well(0, 3) == 1) {
-                seen = number;
-            }
-        }
-        Check.due(what + ": restsIn(0, 30)", told, seen);
-    }
-
-    /** Promise 24. */
-    private static void leastFlow() {
-        SaltWedge x = new SaltWedge();
-        Check.due("leastFlow(0, 0)", x.leastFlow(0, 0), 20);
-        Check.due("leastFlow(0, 30)", x.leastFlow(0, 30), 50);
-        Check.due("leastFlow(19, 0)", x.leastFlow(19, 0), 1);
-        Check.due("leastFlow(20, 0)", x.leastFlow(20, 0), 0);
-        Check.due("leastFlow(39, 30), the depth keeps it out", x.leastFlow(39, 30), 0);
-        Check.due("leastFlow(19, 30)", x.leastFlow(19, 30), 31);
-        Check.due("leastFlow(0, -30)", x.leastFlow(0, -30), 0);
-        x.flow(77);
-        Check.due("leastFlow is the same with another flow", x.leastFlow(0, 0), 20);
-        x.build(4, 9);
-        Check.due("leastFlow(10, 0), the sill", x.leastFlow(10, 0), 7);
-        Check.due("leastFlow(3, 0), below the sill", x.leastFlow(3, 0), 17);
-        x.build(4, 0);
-        x.set(0, 60);
-        Check.due("the greatest of all", x.leastFlow(0, 30), 90);
-        x.set(1, 0);
-        Check.due("the greatest of all, in the last cell", x.leastFlow(39, 30), 90);
-        Check.due("leastFlow sets no flow", x.count(1), 77);
-        Check.refused("leastFlow(-1, 0)", ToldTest::some, y -> y.leastFlow(-1, 0), SaltWedge.UNKNOWN);
-        Check.refused("leastFlow(40, 31)", ToldTest::some, y -> y.leastFlow(40, 31), SaltWedge.UNKNOWN);
-        Check.refused("leastFlow(0, -31)", ToldTest::some, y -> y.leastFlow(0, -31), SaltWedge.BAD_VALUE);
-        Check.refused("leastFlow(0, 31)", ToldTest::some, y -> y.leastFlow(0, 31), SaltWedge.BAD_VALUE);
-    }
-
-    /** Promise 25. */
-    private static void bestSill() {
-        SaltWedge x = new SaltWedge();
-        Check.due("bestSill(10, 0)", x.bestSill(10, 0), 0);
-        Check.due("bestSill(9, 0)", x.bestSill(9, 0), 1);
-        Check.due("bestSill(1, 0)", x.bestSill(1, 0), 9);
-        Check.due("bestSill(1, -9)", x.bestSill(1, -9), 0);
-        Check.due("bestSill(1, -10), without a push", x.bestSill(1, -10), SaltWedge.NONE);
-        Check.due("bestSill(21, 0), deeper than all", x.bestSill(21, 0), SaltWedge.NONE);
-        Check.due("bestSill(20, 30)", x.bestSill(20, 30), 1);
-        Check.due("bestSill(20, 10)", x.bestSill(20, 10), 0);
-        x.dig(3, 30);
-        Check.due("bestSill(21, 0), one cell is as deep", x.bestSill(21, 0), 3);
-        x.dig(7, 30);
-        Check.due("bestSill(30, 0), of two the lowest", x.bestSill(30, 0), 3);
-        x.build(3, 5);
-        Check.due("a cell with a lower sill", x.bestSill(8, 0), 2);
-        Check.due("a cell with a lower sill, in it", x.bestSill(7, 0), 3);
-        x.build(0, 9);
-        Check.due("a cell with a sill as high", x.bestSill(9, 0), 1);
-        Check.due("a cell with a sill lower by 1", x.bestSill(10, 0), 0);
-        x.build(1, 9);
-        Check.due("where a sill stops it", x.bestSill(9, 0), SaltWedge.NONE);
-        bestSillOfWedgeWithoutEnd();
-        Check.refused("bestSill(0, 0)", ToldTest::some, y -> y.bestSill(0, 0), SaltWedge.BAD_VALUE);
-        Check.refused("bestSill(0, 31)", ToldTest::some, y -> y.bestSill(0, 31), SaltWedge.BAD_VALUE);
-        Check.refused("bestSill(61, 0)", ToldTest::some, y -> y.bestSill(61, 0), SaltWedge.BAD_VALUE);
-        Check.refused("bestSill(5, -31)", ToldTest::some, y -> y.bestSill(5, -31), SaltWedge.BAD_VALUE);
-        Check.refused("bestSill(5, 31)", ToldTest::some, y -> y.bestSill(5, 31), SaltWedge.BAD_VALUE);
-    }
-
-    private static void bestSillOfWedgeWithoutEnd() {
-        SaltWedge x = new SaltWedge();
-        x.set(1, 0);
-        Check.due("without end: bestSill(9, 0)", x.bestSill(9, 0), SaltWedge.NONE);
-        x.dig(39, 60);
-        Check.due("without end: bestSill(60, 0)", x.bestSill(60, 0), 39);
-        x.dig(38, 5);
-        Check.due("without end: bestSill(5, 0)", x.bestSill(5, 0), 39);
-        Check.due("without end: bestSill(10, 0)", x.bestSill(10, 0), 0);
-        Check.due("without end: bestSill(4, 0)", x.bestSill(4, 0), SaltWedge.NONE);
-        x.dig(38, 4);
-        Check.due("without end: the last cell has 4", x.bestSill(4, 0), 39);
-        Check.due("bestSill builds nothing", x.cell(39, 1), 0);
-    }
-
-    /** Promise 26. */
     private static void count() {
-        SaltWedge x = new SaltWedge();
-        some(x);
-        int[] wants = {5, 10, 20, 210, 3, 1, 56, 155, 19, 20, 1, 5, 4, 8};
-        for (int what = 0; what < wants.length; what++) {
-            Check.due("count(" + what + ")", x.count(what), wants[what]);
+        Doc.section("Promise 26: count");
+        Doc.says("`int count(int what)`:");
+        int[] wants = {5, 10, 20, 210, 4, 1, 68, 230, 19, 20, 1, 5, 4, 8};
+        for (int number = 0; number < wants.length; number++) {
+            int what = number;
+            tells("count(" + what + ")", x -> x.count(what), wants[what]);
         }
-        Check.refused("count(-1)", ToldTest::some, y -> y.count(-1), SaltWedge.BAD_VALUE);
-        Check.refused("count(14)", ToldTest::some, y -> y.count(14), SaltWedge.BAD_VALUE);
-        Check.refused("count(MAX)", ToldTest::some, y -> y.count(Integer.MAX_VALUE), SaltWedge.BAD_VALUE);
+
+        Doc.says("- `what`: 0 for tides so far, 1 for the flow, 2 for cells with salt water, 3 for the heights of all "
+            + "cells, 4 for wells, 5 for those that rest, 6 for the salt of all wells, 7 for water drawn so far by "
+            + "wells that are there,");
+        SaltWedge x = Check.made(Check::some);
+        x.fillIn(0);
+        Check.due("without one that rests: wells", x.count(4), 3);
+        Check.due("without one that rests: those that rest", x.count(5), 0);
+        Check.due("without one that rests: salt", x.count(6), 12);
+        Check.due("without one that rests: water", x.count(7), 140);
+        x.fillIn(0);
+        x.fillIn(0);
+        x.fillIn(0);
+        for (int what = 4; what <= 7; what++) {
+            Check.due("without wells: count(" + what + ")", x.count(what), 0);
+        }
+        x.set(1, 0);
+        x.set(2, 60);
+        x.flow(0);
+        x.tide(0, 1);
+        Check.due("all cells have salt water", x.count(2), 40);
+        Check.due("30 heights of 20 and 10 of 11", x.count(3), 710);
+
+        Doc.says("8 for the farthest cell that the wedge reached so far behind a tide (NONE if none),");
+        SaltWedge y = new SaltWedge();
+        Check.due("without tides", y.count(8), SaltWedge.NONE);
+        y.tide(-10, 3);
+        Check.due("tides that reach nothing", y.count(8), SaltWedge.NONE);
+        y.tide(-9, 1);
+        Check.due("the cell 0", y.count(8), 0);
+        y.tide(30, 1);
+        Check.due("the cell 19", y.count(8), 19);
+        y.tide(-30, 9);
+        Check.due("still the cell 19", y.count(8), 19);
+        y.undo();
+        y.undo();
+        Check.due("the cell 0 again", y.count(8), 0);
+        Check.due("a tide of several that reached farthest", Check.perform(y, "t9;t-30*99"), 2);
+        Check.due("the cell 18", y.count(8), 18);
     }
 
-    /** What is told is no act and changes nothing. */
-    private static void nothingIsChanged() {
-        Check.Call[] calls = {y -> y.cell(3, 2), y -> y.well(0, 2), SaltWedge::reach, y -> y.mark(0, 30),
-            y -> y.stopCell(30), y -> y.reason(39, 0), y -> y.restsIn(2, 30), y -> y.leastFlow(0, 30),
-            y -> y.bestSill(19, 30), y -> y.count(3), y -> y.stopped(0)};
-        for (int number = 0; number < calls.length; number++) {
-            Check.Call call = calls[number];
-            SaltWedge x = new SaltWedge();
-            some(x);
-            Check.refused("what is told, call " + number, ToldTest::some, call, call.on(x));
-        }
+    private static void countErrors() {
+        Doc.says("9 to 11 for the settings, 12 for the states in the history, 13 for the length of the text");
+        SaltWedge x = new SaltWedge();
+        x.set(0, 41);
+        Check.due("the setting 0", x.count(9), 41);
+        x.set(1, 7);
+        Check.due("the setting 1", x.count(10), 7);
+        x.set(2, 33);
+        Check.due("the setting 2", x.count(11), 33);
+        Check.due("three states", x.count(12), 3);
+        x.flow(1);
+        Check.due("four states", x.count(12), 4);
+        x.flow(2);
+        Check.due("no more states", x.count(12), 4);
+        x.undo();
+        Check.due("three states again", x.count(12), 3);
+        Check.due("no text", x.count(13), 0);
+        Check.write(x, "t".repeat(60));
+        Check.due("a text of 60", x.count(13), 60);
+
+        Doc.says("Returns the number;");
+        tells("count(3)", y -> y.count(3), 210);
+
+        Doc.says("BAD_VALUE.");
+        Check.refusedBeyond("count(..)", SaltWedge::count, 0, 13, SaltWedge.BAD_VALUE);
+        Check.refused("count(14) at first", Check::fresh, y -> y.count(14), SaltWedge.BAD_VALUE);
     }
 }
