@@ -112,6 +112,13 @@ final class Check {
         wedge.dig(30, 11);
     }
 
+    /** Six wells beside the cells 0, 3, .. 15, with rates from 1 to 6. */
+    static void sixWells(SaltWedge wedge) {
+        for (int number = 0; number < 6; number++) {
+            wedge.sink(3 * number, number + 1);
+        }
+    }
+
     /** 99990 tides, 9 less than there may be at most, and nothing else but the text that told them. */
     static void almostAllTides(SaltWedge wedge) {
         write(wedge, "t0*99;t0*99;t0*99;t0*99;t0*99;t0*99;t0*99;t0*99;t0*99;t0*99");
@@ -141,10 +148,15 @@ final class Check {
         }
     }
 
+    /** Of `some`, the call answers this, and changes nothing. */
+    static void tells(String what, Call call, int want) {
+        refused(what, Check::some, call, want);
+    }
+
     /** Outside the range, just beyond it and as far as can be, the call answers the error. */
     static void refusedBeyond(String what, CallOf call, int least, int most, int error) {
         for (int value : new int[] {least - 1, most + 1, Integer.MIN_VALUE, Integer.MAX_VALUE}) {
-            refused(what + " with " + value, Check::some, x -> call.on(x, value), error);
+            tells(what + " with " + value, x -> call.on(x, value), error);
         }
     }
 

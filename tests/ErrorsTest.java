@@ -8,41 +8,30 @@ public final class ErrorsTest {
         Check.end();
     }
 
-    /** Six wells beside the cells 0, 3, .. 15. */
-    private static void six(SaltWedge x) {
-        for (int number = 0; number < 6; number++) {
-            x.sink(3 * number, 5);
-        }
-    }
-
-    private static void is(int want, String what, Check.Call call) {
-        Check.refused(what, Check::some, call, want);
-    }
-
     private static void order() {
         Doc.section("ERRORS");
         Doc.leaves("Errors are reported by the constants below.");
         Doc.says("Where several errors can apply, the order of the @return line is the order of the checks.");
-        is(SaltWedge.UNKNOWN, "dig(40, 61)", x -> x.dig(40, 61));
-        is(SaltWedge.UNKNOWN, "build(40, 61)", x -> x.build(40, 61));
-        is(SaltWedge.UNKNOWN, "set(3, 61)", x -> x.set(3, 61));
-        is(SaltWedge.UNKNOWN, "sink(40, 31)", x -> x.sink(40, 31));
-        is(SaltWedge.UNKNOWN, "setRate(4, 31)", x -> x.setRate(4, 31));
-        is(SaltWedge.UNKNOWN, "cell(40, 5)", x -> x.cell(40, 5));
-        is(SaltWedge.UNKNOWN, "well(4, 7)", x -> x.well(4, 7));
-        is(SaltWedge.UNKNOWN, "mark(40, 31)", x -> x.mark(40, 31));
-        is(SaltWedge.UNKNOWN, "reason(40, 31)", x -> x.reason(40, 31));
-        is(SaltWedge.UNKNOWN, "restsIn(4, 31)", x -> x.restsIn(4, 31));
-        is(SaltWedge.UNKNOWN, "leastFlow(40, 31)", x -> x.leastFlow(40, 31));
-        is(SaltWedge.BAD_VALUE, "dig(0, 0), below the wedge", x -> x.dig(0, 0));
-        is(SaltWedge.BAD_VALUE, "build(0, 61), above the depth", x -> x.build(0, 61));
-        is(SaltWedge.BAD_VALUE, "sink(1, 31), beside one", x -> x.sink(1, 31));
-        is(SaltWedge.BAD_VALUE, "restsIn(0, 31) of one that rests", x -> x.restsIn(0, 31));
+        Check.tells("dig(40, 61)", x -> x.dig(40, 61), SaltWedge.UNKNOWN);
+        Check.tells("build(40, 61)", x -> x.build(40, 61), SaltWedge.UNKNOWN);
+        Check.tells("set(3, 61)", x -> x.set(3, 61), SaltWedge.UNKNOWN);
+        Check.tells("sink(40, 31)", x -> x.sink(40, 31), SaltWedge.UNKNOWN);
+        Check.tells("setRate(4, 31)", x -> x.setRate(4, 31), SaltWedge.UNKNOWN);
+        Check.tells("cell(40, 5)", x -> x.cell(40, 5), SaltWedge.UNKNOWN);
+        Check.tells("well(4, 7)", x -> x.well(4, 7), SaltWedge.UNKNOWN);
+        Check.tells("mark(40, 31)", x -> x.mark(40, 31), SaltWedge.UNKNOWN);
+        Check.tells("reason(40, 31)", x -> x.reason(40, 31), SaltWedge.UNKNOWN);
+        Check.tells("restsIn(4, 31)", x -> x.restsIn(4, 31), SaltWedge.UNKNOWN);
+        Check.tells("leastFlow(40, 31)", x -> x.leastFlow(40, 31), SaltWedge.UNKNOWN);
+        Check.tells("dig(0, 0), below the wedge", x -> x.dig(0, 0), SaltWedge.BAD_VALUE);
+        Check.tells("build(0, 61), above the depth", x -> x.build(0, 61), SaltWedge.BAD_VALUE);
+        Check.tells("sink(1, 31), beside one", x -> x.sink(1, 31), SaltWedge.BAD_VALUE);
+        Check.tells("restsIn(0, 31) of one that rests", x -> x.restsIn(0, 31), SaltWedge.BAD_VALUE);
         Check.refused("perform() with a stop and a fault", x -> Check.write(x, "s3=60;"), SaltWedge::perform, -106);
-        Check.refused("sink(40, 5) of six", ErrorsTest::six, x -> x.sink(40, 5), SaltWedge.UNKNOWN);
-        Check.refused("sink(1, 31) of six", ErrorsTest::six, x -> x.sink(1, 31), SaltWedge.BAD_VALUE);
-        Check.refused("sink(3, 31) beside one of six", ErrorsTest::six, x -> x.sink(3, 31), SaltWedge.BAD_VALUE);
-        Check.refused("sink(3, 5) beside one of six", ErrorsTest::six, x -> x.sink(3, 5), SaltWedge.NOT_POSSIBLE);
+        Check.refused("sink(40, 5) of six", Check::sixWells, x -> x.sink(40, 5), SaltWedge.UNKNOWN);
+        Check.refused("sink(1, 31) of six", Check::sixWells, x -> x.sink(1, 31), SaltWedge.BAD_VALUE);
+        Check.refused("sink(3, 31) beside one of six", Check::sixWells, x -> x.sink(3, 31), SaltWedge.BAD_VALUE);
+        Check.refused("sink(3, 5) beside one of six", Check::sixWells, x -> x.sink(3, 5), SaltWedge.NOT_POSSIBLE);
         Check.refused("tide(31, 99) of too many", Check::almostAllTides, x -> x.tide(31, 99), SaltWedge.BAD_VALUE);
         Check.refused("tide(0, 100) of too many", Check::almostAllTides, x -> x.tide(0, 100), SaltWedge.BAD_VALUE);
     }
@@ -50,16 +39,16 @@ public final class ErrorsTest {
     private static void none() {
         Doc.says("NONE is no error; it is returned only if no error applies.");
         Check.due("perform() of what answers NONE is no error", Check.perform(new SaltWedge(), "r10"), 1);
-        is(SaltWedge.UNKNOWN, "dig(40, 20)", x -> x.dig(40, 20));
-        is(SaltWedge.UNKNOWN, "build(-1, 0)", x -> x.build(-1, 0));
-        is(SaltWedge.UNKNOWN, "cell(40, 3)", x -> x.cell(40, 3));
-        is(SaltWedge.UNKNOWN, "setRate(4, 5)", x -> x.setRate(4, 5));
-        is(SaltWedge.BAD_VALUE, "restsIn(1, -31)", x -> x.restsIn(1, -31));
-        is(SaltWedge.NONE, "restsIn(1, -30)", x -> x.restsIn(1, -30));
-        is(SaltWedge.NOT_POSSIBLE, "restsIn(0, -30)", x -> x.restsIn(0, -30));
-        is(SaltWedge.BAD_VALUE, "bestSill(61, -30)", x -> x.bestSill(61, -30));
-        is(SaltWedge.BAD_VALUE, "bestSill(60, -31)", x -> x.bestSill(60, -31));
-        is(SaltWedge.NONE, "bestSill(60, -30)", x -> x.bestSill(60, -30));
+        Check.tells("dig(40, 20)", x -> x.dig(40, 20), SaltWedge.UNKNOWN);
+        Check.tells("build(-1, 0)", x -> x.build(-1, 0), SaltWedge.UNKNOWN);
+        Check.tells("cell(40, 3)", x -> x.cell(40, 3), SaltWedge.UNKNOWN);
+        Check.tells("setRate(4, 5)", x -> x.setRate(4, 5), SaltWedge.UNKNOWN);
+        Check.tells("restsIn(1, -31)", x -> x.restsIn(1, -31), SaltWedge.BAD_VALUE);
+        Check.tells("restsIn(1, -30)", x -> x.restsIn(1, -30), SaltWedge.NONE);
+        Check.tells("restsIn(0, -30)", x -> x.restsIn(0, -30), SaltWedge.NOT_POSSIBLE);
+        Check.tells("bestSill(61, -30)", x -> x.bestSill(61, -30), SaltWedge.BAD_VALUE);
+        Check.tells("bestSill(60, -31)", x -> x.bestSill(60, -31), SaltWedge.BAD_VALUE);
+        Check.tells("bestSill(60, -30)", x -> x.bestSill(60, -30), SaltWedge.NONE);
         Check.Setup endless = x -> x.set(1, 0);
         Check.refused("stopCell(31) of a tide without end", endless, x -> x.stopCell(31), SaltWedge.BAD_VALUE);
         Check.refused("stopCell(30) of a tide without end", endless, x -> x.stopCell(30), SaltWedge.NONE);
@@ -69,16 +58,16 @@ public final class ErrorsTest {
 
     private static void nothingIsChanged() {
         Doc.says("A call that returns an error or NONE changes nothing (but for the latest stop of perform()).");
-        is(SaltWedge.NOT_POSSIBLE, "dig(0, 5)", x -> x.dig(0, 5));
-        is(SaltWedge.NOT_POSSIBLE, "build(30, 12)", x -> x.build(30, 12));
-        is(SaltWedge.NONE, "flow(10)", x -> x.flow(10));
-        is(SaltWedge.NONE, "set(2, 5)", x -> x.set(2, 5));
-        is(SaltWedge.NOT_POSSIBLE, "sink(5, 9)", x -> x.sink(5, 9));
-        is(SaltWedge.UNKNOWN, "fillIn(4)", x -> x.fillIn(4));
-        is(SaltWedge.NONE, "setRate(1, 4)", x -> x.setRate(1, 4));
-        is(SaltWedge.BAD_VALUE, "tide(30, 0)", x -> x.tide(30, 0));
-        is(SaltWedge.NOT_POSSIBLE, "restsIn(0, 0)", x -> x.restsIn(0, 0));
-        is(SaltWedge.NOT_POSSIBLE, "perform(), stopped as before", SaltWedge::perform);
+        Check.tells("dig(0, 5)", x -> x.dig(0, 5), SaltWedge.NOT_POSSIBLE);
+        Check.tells("build(30, 12)", x -> x.build(30, 12), SaltWedge.NOT_POSSIBLE);
+        Check.tells("flow(10)", x -> x.flow(10), SaltWedge.NONE);
+        Check.tells("set(2, 5)", x -> x.set(2, 5), SaltWedge.NONE);
+        Check.tells("sink(5, 9)", x -> x.sink(5, 9), SaltWedge.NOT_POSSIBLE);
+        Check.tells("fillIn(4)", x -> x.fillIn(4), SaltWedge.UNKNOWN);
+        Check.tells("setRate(1, 4)", x -> x.setRate(1, 4), SaltWedge.NONE);
+        Check.tells("tide(30, 0)", x -> x.tide(30, 0), SaltWedge.BAD_VALUE);
+        Check.tells("restsIn(0, 0)", x -> x.restsIn(0, 0), SaltWedge.NOT_POSSIBLE);
+        Check.tells("perform(), stopped as before", SaltWedge::perform, SaltWedge.NOT_POSSIBLE);
         SaltWedge x = Check.made(Check::some);
         Check.due("perform(), stopped in another place", Check.perform(x, "s1=3;t9;r2;s3=60"), SaltWedge.NOT_POSSIBLE);
         Check.due("the latest stop", x.stopped(0), 3);
@@ -91,28 +80,28 @@ public final class ErrorsTest {
     private static void constants() {
         Doc.says("The constants: `UNKNOWN = -1`: There is no such cell, well or setting.");
         Check.due("UNKNOWN", SaltWedge.UNKNOWN, -1);
-        is(-1, "a cell", x -> x.cell(40, 0));
-        is(-1, "a well", x -> x.well(4, 0));
-        is(-1, "a setting", x -> x.set(3, 1));
+        Check.tells("a cell", x -> x.cell(40, 0), -1);
+        Check.tells("a well", x -> x.well(4, 0), -1);
+        Check.tells("a setting", x -> x.set(3, 1), -1);
 
         Doc.says("`BAD_VALUE = -2`: Another argument is out of range.");
         Check.due("BAD_VALUE", SaltWedge.BAD_VALUE, -2);
-        is(-2, "a depth", x -> x.dig(0, 61));
-        is(-2, "a rise", x -> x.stopCell(31));
+        Check.tells("a depth", x -> x.dig(0, 61), -2);
+        Check.tells("a rise", x -> x.stopCell(31), -2);
 
         Doc.says("`FULL = -3`: There is no more room.");
         Check.due("FULL", SaltWedge.FULL, -3);
-        Check.refused("wells", ErrorsTest::six, x -> x.sink(30, 5), -3);
+        Check.refused("wells", Check::sixWells, x -> x.sink(30, 5), -3);
         Check.refused("characters", x -> Check.write(x, "t".repeat(60)), x -> x.type('t'), -3);
         Check.refused("tides", Check::almostAllTides, x -> x.tide(0, 10), -3);
 
         Doc.says("`NOT_POSSIBLE = -4`: This is not possible.");
         Check.due("NOT_POSSIBLE", SaltWedge.NOT_POSSIBLE, -4);
-        is(-4, "a sill above the depth", x -> x.build(30, 12));
+        Check.tells("a sill above the depth", x -> x.build(30, 12), -4);
 
         Doc.says("`NONE = -5`: There is no such thing; not an error.");
         Check.due("NONE", SaltWedge.NONE, -5);
-        is(-5, "a well beside a cell", x -> x.cell(0, 3));
+        Check.tells("a well beside a cell", x -> x.cell(0, 3), -5);
 
         Doc.leaves("Ahead of the calls `dig`, `build`, `flow`, `set` the interface says: ---- the bed.");
         Doc.leaves("Ahead of the calls `sink`, `fillIn`, `setRate`, `tide` the interface says: ---- wells, tides.");

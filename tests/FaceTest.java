@@ -27,8 +27,10 @@ public final class FaceTest {
         + "package|equals|hashCode|toString|System\\.out|Random|Thread)\\b|->|::";
 
     public static void main(String[] args) throws IOException {
+        Check.under("The public face");
         face();
         constants();
+        Check.under("LANGUAGE.md");
         classesInside();
         words();
         Check.end();
@@ -82,6 +84,10 @@ public final class FaceTest {
             if (Modifier.isPublic(method.getModifiers())) {
                 names.add(method.getName());
             }
+        }
+        for (Method method : SaltWedge.class.getDeclaredMethods()) {
+            Check.hold(method + " has no name of the face",
+                Modifier.isPublic(method.getModifiers()) || !names.contains(method.getName()));
         }
         for (Class<?> type : inside) {
             Check.hold(type + " is static and not public",

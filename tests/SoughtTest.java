@@ -13,11 +13,6 @@ public final class SoughtTest {
         Check.end();
     }
 
-    /** The call tells the number, and changes nothing. */
-    private static void tells(String what, Check.Call call, int want) {
-        Check.refused(what, Check::some, call, want);
-    }
-
     private static void mark() {
         Doc.section("Promise 20: mark");
         Doc.says("`int mark(int cell, int rise)`: Tells the mark of a cell in a tide that came now.");
@@ -44,24 +39,24 @@ public final class SoughtTest {
         Check.due("what was set counts at once", y.mark(3, 0), 6);
 
         Doc.says("- `cell`: 0 to 39");
-        tells("mark(0, 0)", z -> z.mark(0, 0), 10);
-        tells("mark(39, 0)", z -> z.mark(39, 0), 0);
+        Check.tells("mark(0, 0)", z -> z.mark(0, 0), 10);
+        Check.tells("mark(39, 0)", z -> z.mark(39, 0), 0);
         Check.refusedBeyond("mark(.., 0)", (z, cell) -> z.mark(cell, 0), 0, 39, SaltWedge.UNKNOWN);
 
         Doc.says("- `rise`: -30 to 30");
-        tells("mark(3, 30)", z -> z.mark(3, 30), 17);
-        tells("mark(3, -30)", z -> z.mark(3, -30), 0);
+        Check.tells("mark(3, 30)", z -> z.mark(3, 30), 17);
+        Check.tells("mark(3, -30)", z -> z.mark(3, -30), 0);
         Check.refusedBeyond("mark(3, ..)", (z, rise) -> z.mark(3, rise), -30, 30, SaltWedge.BAD_VALUE);
 
         Doc.says("Returns the mark;");
-        tells("mark(9, 7)", z -> z.mark(9, 7), 0);
-        tells("mark(9, 8)", z -> z.mark(9, 8), 9);
+        Check.tells("mark(9, 7)", z -> z.mark(9, 7), 0);
+        Check.tells("mark(9, 8)", z -> z.mark(9, 8), 9);
 
         Doc.says("UNKNOWN;");
-        tells("mark(40, 31)", z -> z.mark(40, 31), SaltWedge.UNKNOWN);
+        Check.tells("mark(40, 31)", z -> z.mark(40, 31), SaltWedge.UNKNOWN);
 
         Doc.says("BAD_VALUE.");
-        tells("mark(39, 31)", z -> z.mark(39, 31), SaltWedge.BAD_VALUE);
+        Check.tells("mark(39, 31)", z -> z.mark(39, 31), SaltWedge.BAD_VALUE);
     }
 
     private static void stopCell() {
@@ -76,8 +71,8 @@ public final class SoughtTest {
         Check.due("a sill lower than the mark", x.stopCell(1), 11);
 
         Doc.says("- `rise`: -30 to 30");
-        tells("stopCell(30)", y -> y.stopCell(30), 20);
-        tells("stopCell(-30)", y -> y.stopCell(-30), 0);
+        Check.tells("stopCell(30)", y -> y.stopCell(30), 20);
+        Check.tells("stopCell(-30)", y -> y.stopCell(-30), 0);
 
         Doc.says("Returns the lowest cell with the mark 0;");
         SaltWedge y = new SaltWedge();
@@ -108,13 +103,13 @@ public final class SoughtTest {
         Check.due("the heights do not count", x.reason(10, 0), 3);
 
         Doc.says("- `cell`: 0 to 39");
-        tells("reason(0, 0)", y -> y.reason(0, 0), 0);
-        tells("reason(39, 0)", y -> y.reason(39, 0), 2);
+        Check.tells("reason(0, 0)", y -> y.reason(0, 0), 0);
+        Check.tells("reason(39, 0)", y -> y.reason(39, 0), 2);
         Check.refusedBeyond("reason(.., 0)", (y, cell) -> y.reason(cell, 0), 0, 39, SaltWedge.UNKNOWN);
 
         Doc.says("- `rise`: -30 to 30");
-        tells("reason(39, 30)", y -> y.reason(39, 30), 3);
-        tells("reason(39, -30)", y -> y.reason(39, -30), 1);
+        Check.tells("reason(39, 30)", y -> y.reason(39, 30), 3);
+        Check.tells("reason(39, -30)", y -> y.reason(39, -30), 1);
         Check.refusedBeyond("reason(39, ..)", (y, rise) -> y.reason(39, rise), -30, 30, SaltWedge.BAD_VALUE);
 
         Doc.says("Returns 0 if it is not;");
@@ -161,11 +156,11 @@ public final class SoughtTest {
         Check.due("of a steep one, just 0", x.reason(1, -1), 3);
 
         Doc.says("UNKNOWN;");
-        tells("reason(40, 31)", y -> y.reason(40, 31), SaltWedge.UNKNOWN);
-        tells("reason(-1, -31)", y -> y.reason(-1, -31), SaltWedge.UNKNOWN);
+        Check.tells("reason(40, 31)", y -> y.reason(40, 31), SaltWedge.UNKNOWN);
+        Check.tells("reason(-1, -31)", y -> y.reason(-1, -31), SaltWedge.UNKNOWN);
 
         Doc.says("BAD_VALUE.");
-        tells("reason(0, 31)", y -> y.reason(0, 31), SaltWedge.BAD_VALUE);
+        Check.tells("reason(0, 31)", y -> y.reason(0, 31), SaltWedge.BAD_VALUE);
     }
 
     private static void restsIn() {
@@ -183,7 +178,7 @@ public final class SoughtTest {
         }
 
         Doc.says("- `well`: a well");
-        tells("restsIn(3, 30)", y -> y.restsIn(3, 30), 13);
+        Check.tells("restsIn(3, 30)", y -> y.restsIn(3, 30), 13);
         Check.refused("restsIn(5, 30) of six", y -> {
             for (int number = 0; number < 6; number++) {
                 y.sink(3 * number, 30);
@@ -192,8 +187,8 @@ public final class SoughtTest {
         Check.refusedBeyond("restsIn(.., 0)", (y, well) -> y.restsIn(well, 0), 0, 3, SaltWedge.UNKNOWN);
 
         Doc.says("- `rise`: -30 to 30");
-        tells("restsIn(2, 30)", y -> y.restsIn(2, 30), SaltWedge.NONE);
-        tells("restsIn(2, -30)", y -> y.restsIn(2, -30), SaltWedge.NONE);
+        Check.tells("restsIn(2, 30)", y -> y.restsIn(2, 30), SaltWedge.NONE);
+        Check.tells("restsIn(2, -30)", y -> y.restsIn(2, -30), SaltWedge.NONE);
         Check.refusedBeyond("restsIn(2, ..)", (y, rise) -> y.restsIn(2, rise), -30, 30, SaltWedge.BAD_VALUE);
     }
 
@@ -222,17 +217,17 @@ public final class SoughtTest {
         Check.due("it does not rest now", x.well(0, 3), 0);
 
         Doc.says("UNKNOWN;");
-        tells("restsIn(4, 31)", y -> y.restsIn(4, 31), SaltWedge.UNKNOWN);
-        tells("restsIn(-1, -31)", y -> y.restsIn(-1, -31), SaltWedge.UNKNOWN);
+        Check.tells("restsIn(4, 31)", y -> y.restsIn(4, 31), SaltWedge.UNKNOWN);
+        Check.tells("restsIn(-1, -31)", y -> y.restsIn(-1, -31), SaltWedge.UNKNOWN);
         Check.refused("restsIn(0, 0) of none", Check::fresh, y -> y.restsIn(0, 0), SaltWedge.UNKNOWN);
 
         Doc.says("BAD_VALUE;");
-        tells("restsIn(0, 31) of one that rests", y -> y.restsIn(0, 31), SaltWedge.BAD_VALUE);
-        tells("restsIn(0, -31) of one that rests", y -> y.restsIn(0, -31), SaltWedge.BAD_VALUE);
+        Check.tells("restsIn(0, 31) of one that rests", y -> y.restsIn(0, 31), SaltWedge.BAD_VALUE);
+        Check.tells("restsIn(0, -31) of one that rests", y -> y.restsIn(0, -31), SaltWedge.BAD_VALUE);
 
         Doc.says("NOT_POSSIBLE if it rests now;");
-        tells("restsIn(0, 30)", y -> y.restsIn(0, 30), SaltWedge.NOT_POSSIBLE);
-        tells("restsIn(0, -30)", y -> y.restsIn(0, -30), SaltWedge.NOT_POSSIBLE);
+        Check.tells("restsIn(0, 30)", y -> y.restsIn(0, 30), SaltWedge.NOT_POSSIBLE);
+        Check.tells("restsIn(0, -30)", y -> y.restsIn(0, -30), SaltWedge.NOT_POSSIBLE);
         x.tide(0, 1);
         Check.due("with 50 of salt", x.restsIn(0, 0), SaltWedge.NOT_POSSIBLE);
         x.tide(0, 24);
@@ -284,13 +279,13 @@ public final class SoughtTest {
         Check.due("no flow is set", x.count(1), 77);
 
         Doc.says("- `cell`: 0 to 39");
-        tells("leastFlow(0, 0)", y -> y.leastFlow(0, 0), 20);
-        tells("leastFlow(39, 0)", y -> y.leastFlow(39, 0), 0);
+        Check.tells("leastFlow(0, 0)", y -> y.leastFlow(0, 0), 20);
+        Check.tells("leastFlow(39, 0)", y -> y.leastFlow(39, 0), 0);
         Check.refusedBeyond("leastFlow(.., 0)", (y, cell) -> y.leastFlow(cell, 0), 0, 39, SaltWedge.UNKNOWN);
 
         Doc.says("- `rise`: -30 to 30");
-        tells("leastFlow(1, 30)", y -> y.leastFlow(1, 30), 49);
-        tells("leastFlow(1, -30)", y -> y.leastFlow(1, -30), 0);
+        Check.tells("leastFlow(1, 30)", y -> y.leastFlow(1, 30), 49);
+        Check.tells("leastFlow(1, -30)", y -> y.leastFlow(1, -30), 0);
         Check.refusedBeyond("leastFlow(1, ..)", (y, rise) -> y.leastFlow(1, rise), -30, 30, SaltWedge.BAD_VALUE);
 
         Doc.says("Returns the flow;");
@@ -301,11 +296,11 @@ public final class SoughtTest {
         Check.due("a flow of 0, as the depth holds it", z.leastFlow(39, 30), 0);
 
         Doc.says("UNKNOWN;");
-        tells("leastFlow(40, 31)", y -> y.leastFlow(40, 31), SaltWedge.UNKNOWN);
-        tells("leastFlow(-1, -31)", y -> y.leastFlow(-1, -31), SaltWedge.UNKNOWN);
+        Check.tells("leastFlow(40, 31)", y -> y.leastFlow(40, 31), SaltWedge.UNKNOWN);
+        Check.tells("leastFlow(-1, -31)", y -> y.leastFlow(-1, -31), SaltWedge.UNKNOWN);
 
         Doc.says("BAD_VALUE;");
-        tells("leastFlow(39, 31)", y -> y.leastFlow(39, 31), SaltWedge.BAD_VALUE);
+        Check.tells("leastFlow(39, 31)", y -> y.leastFlow(39, 31), SaltWedge.BAD_VALUE);
 
         Doc.says("NONE if there is none up to 99.");
         z.set(0, 60);
@@ -351,24 +346,24 @@ public final class SoughtTest {
         Check.due("a cell less deep by 1, which bounds the next marks", x.bestSill(9, 0), 2);
 
         Doc.says("- `sill`: 1 to 60");
-        tells("bestSill(1, 0)", z -> z.bestSill(1, 0), SaltWedge.NONE);
-        tells("bestSill(60, 0)", z -> z.bestSill(60, 0), SaltWedge.NONE);
+        Check.tells("bestSill(1, 0)", z -> z.bestSill(1, 0), SaltWedge.NONE);
+        Check.tells("bestSill(60, 0)", z -> z.bestSill(60, 0), SaltWedge.NONE);
         Check.refused("bestSill(60, 0) of a deep cell", z -> z.dig(4, 60), z -> z.bestSill(60, 0), 4);
         Check.refused("bestSill(1, 0)", Check::fresh, z -> z.bestSill(1, 0), 9);
 
         Doc.says("- `rise`: -30 to 30");
-        tells("bestSill(7, 30)", z -> z.bestSill(7, 30), 13);
-        tells("bestSill(7, -30)", z -> z.bestSill(7, -30), SaltWedge.NONE);
+        Check.tells("bestSill(7, 30)", z -> z.bestSill(7, 30), 13);
+        Check.tells("bestSill(7, -30)", z -> z.bestSill(7, -30), SaltWedge.NONE);
 
         Doc.says("Returns the cell;");
-        tells("bestSill(9, 5)", z -> z.bestSill(9, 5), 6);
+        Check.tells("bestSill(9, 5)", z -> z.bestSill(9, 5), 6);
     }
 
     private static void bestSillErrors() {
         Doc.says("BAD_VALUE;");
         Check.refusedBeyond("bestSill(.., 0)", (x, sill) -> x.bestSill(sill, 0), 1, 60, SaltWedge.BAD_VALUE);
         Check.refusedBeyond("bestSill(9, ..)", (x, rise) -> x.bestSill(9, rise), -30, 30, SaltWedge.BAD_VALUE);
-        tells("bestSill(0, -30)", x -> x.bestSill(0, -30), SaltWedge.BAD_VALUE);
+        Check.tells("bestSill(0, -30)", x -> x.bestSill(0, -30), SaltWedge.BAD_VALUE);
 
         Doc.says("NONE if there is no such cell,");
         Check.refused("deeper than all", Check::fresh, x -> x.bestSill(21, 0), SaltWedge.NONE);

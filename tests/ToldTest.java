@@ -11,11 +11,6 @@ public final class ToldTest {
         Check.end();
     }
 
-    /** The call tells the number, and changes nothing. */
-    private static void tells(String what, Check.Call call, int want) {
-        Check.refused(what, Check::some, call, want);
-    }
-
     private static void cell() {
         Doc.section("Promise 17: cell");
         Doc.says("`int cell(int cell, int what)`:");
@@ -35,20 +30,20 @@ public final class ToldTest {
         }
 
         Doc.says("- `cell`: 0 to 39");
-        tells("cell(0, 0)", y -> y.cell(0, 0), 20);
-        tells("cell(39, 0)", y -> y.cell(39, 0), 20);
+        Check.tells("cell(0, 0)", y -> y.cell(0, 0), 20);
+        Check.tells("cell(39, 0)", y -> y.cell(39, 0), 20);
         Check.refusedBeyond("cell(.., 0)", (y, cell) -> y.cell(cell, 0), 0, 39, SaltWedge.UNKNOWN);
 
         Doc.says("- `what`: 0 for its depth, 1 for its sill, 2 for the height of the wedge, 3 for the well beside it "
             + "(NONE without one), 4 for tides so far behind which it had salt water");
-        tells("its depth", y -> y.cell(30, 0), 11);
-        tells("its sill", y -> y.cell(9, 1), 8);
-        tells("the height of the wedge", y -> y.cell(9, 2), 11);
-        tells("the well 0", y -> y.cell(1, 3), 0);
-        tells("the well 3", y -> y.cell(12, 3), 3);
-        tells("no well", y -> y.cell(0, 3), SaltWedge.NONE);
-        tells("five tides", y -> y.cell(19, 4), 5);
-        tells("no tides", y -> y.cell(20, 4), 0);
+        Check.tells("its depth", y -> y.cell(30, 0), 11);
+        Check.tells("its sill", y -> y.cell(9, 1), 8);
+        Check.tells("the height of the wedge", y -> y.cell(9, 2), 11);
+        Check.tells("the well 0", y -> y.cell(1, 3), 0);
+        Check.tells("the well 3", y -> y.cell(12, 3), 3);
+        Check.tells("no well", y -> y.cell(0, 3), SaltWedge.NONE);
+        Check.tells("five tides", y -> y.cell(19, 4), 5);
+        Check.tells("no tides", y -> y.cell(20, 4), 0);
         SaltWedge z = new SaltWedge();
         z.tide(-9, 4);
         Check.due("tides that come back count", z.tide(-30, 7) + z.tide(-9, 2), 1);
@@ -57,11 +52,11 @@ public final class ToldTest {
 
     private static void cellErrors() {
         Doc.says("Returns the number;");
-        tells("cell(25, 1)", x -> x.cell(25, 1), 8);
+        Check.tells("cell(25, 1)", x -> x.cell(25, 1), 8);
 
         Doc.says("UNKNOWN;");
-        tells("cell(40, 5)", x -> x.cell(40, 5), SaltWedge.UNKNOWN);
-        tells("cell(-1, -1)", x -> x.cell(-1, -1), SaltWedge.UNKNOWN);
+        Check.tells("cell(40, 5)", x -> x.cell(40, 5), SaltWedge.UNKNOWN);
+        Check.tells("cell(-1, -1)", x -> x.cell(-1, -1), SaltWedge.UNKNOWN);
 
         Doc.says("BAD_VALUE.");
         Check.refusedBeyond("cell(0, ..)", (x, what) -> x.cell(0, what), 0, 4, SaltWedge.BAD_VALUE);
@@ -81,8 +76,8 @@ public final class ToldTest {
         }
 
         Doc.says("- `well`: a well");
-        tells("well(0, 0)", y -> y.well(0, 0), 1);
-        tells("well(3, 0)", y -> y.well(3, 0), 12);
+        Check.tells("well(0, 0)", y -> y.well(0, 0), 1);
+        Check.tells("well(3, 0)", y -> y.well(3, 0), 12);
         Check.refusedBeyond("well(.., 0)", (y, well) -> y.well(well, 0), 0, 3, SaltWedge.UNKNOWN);
         SaltWedge six = new SaltWedge();
         for (int number = 0; number < 6; number++) {
@@ -115,11 +110,11 @@ public final class ToldTest {
 
     private static void wellErrors() {
         Doc.says("Returns the number;");
-        tells("well(2, 5)", x -> x.well(2, 5), 45);
+        Check.tells("well(2, 5)", x -> x.well(2, 5), 45);
 
         Doc.says("UNKNOWN;");
-        tells("well(4, 7)", x -> x.well(4, 7), SaltWedge.UNKNOWN);
-        tells("well(-1, -1)", x -> x.well(-1, -1), SaltWedge.UNKNOWN);
+        Check.tells("well(4, 7)", x -> x.well(4, 7), SaltWedge.UNKNOWN);
+        Check.tells("well(-1, -1)", x -> x.well(-1, -1), SaltWedge.UNKNOWN);
         Check.refused("well(0, 0) of none", Check::fresh, x -> x.well(0, 0), SaltWedge.UNKNOWN);
 
         Doc.says("BAD_VALUE.");
@@ -130,7 +125,7 @@ public final class ToldTest {
     private static void reach() {
         Doc.section("Promise 19: reach");
         Doc.says("`int reach()`: Tells how far the wedge reaches.");
-        tells("reach()", SaltWedge::reach, 19);
+        Check.tells("reach()", SaltWedge::reach, 19);
 
         Doc.says("Returns the greatest cell with salt water;");
         SaltWedge x = new SaltWedge();
@@ -160,7 +155,7 @@ public final class ToldTest {
         int[] wants = {5, 10, 20, 210, 4, 1, 68, 230, 19, 20, 1, 5, 4, 8};
         for (int number = 0; number < wants.length; number++) {
             int what = number;
-            tells("count(" + what + ")", x -> x.count(what), wants[what]);
+            Check.tells("count(" + what + ")", x -> x.count(what), wants[what]);
         }
 
         Doc.says("- `what`: 0 for tides so far, 1 for the flow, 2 for cells with salt water, 3 for the heights of all "
@@ -224,7 +219,7 @@ public final class ToldTest {
         Check.due("a text of 60", x.count(13), 60);
 
         Doc.says("Returns the number;");
-        tells("count(3)", y -> y.count(3), 210);
+        Check.tells("count(3)", y -> y.count(3), 210);
 
         Doc.says("BAD_VALUE.");
         Check.refusedBeyond("count(..)", SaltWedge::count, 0, 13, SaltWedge.BAD_VALUE);

@@ -19,13 +19,6 @@ public final class WellsTest {
         Check.end();
     }
 
-    /** Six wells beside the cells 0, 3, .. 15, with rates from 1 to 6. */
-    private static void six(SaltWedge x) {
-        for (int number = 0; number < 6; number++) {
-            x.sink(3 * number, number + 1);
-        }
-    }
-
     /** A well beside the cell 0, with 40 of salt and a wedge of 10 in 20. */
     private static SaltWedge with40() {
         SaltWedge x = new SaltWedge();
@@ -38,7 +31,7 @@ public final class WellsTest {
     private static void numbers() {
         Doc.section("WELLS");
         Doc.says("There are at most 6 wells at a time,");
-        SaltWedge x = Check.made(WellsTest::six);
+        SaltWedge x = Check.made(Check::sixWells);
         Check.due("six wells", x.count(4), 6);
         Check.due("one more", x.sink(30, 5), SaltWedge.FULL);
         Check.due("still six", x.count(4), 6);
@@ -59,7 +52,7 @@ public final class WellsTest {
 
         Doc.says("if one goes, those behind it have numbers less by 1.");
         for (int gone = 0; gone < 6; gone++) {
-            SaltWedge z = Check.made(WellsTest::six);
+            SaltWedge z = Check.made(Check::sixWells);
             z.fillIn(gone);
             for (int number = 0; number < 5; number++) {
                 int before = number < gone ? number : number + 1;
@@ -336,30 +329,30 @@ public final class WellsTest {
         }
 
         Doc.says("UNKNOWN;");
-        Check.refused("sink(40, 0) of six", WellsTest::six, y -> y.sink(40, 0), SaltWedge.UNKNOWN);
-        Check.refused("sink(-1, 5) of six", WellsTest::six, y -> y.sink(-1, 5), SaltWedge.UNKNOWN);
+        Check.refused("sink(40, 0) of six", Check::sixWells, y -> y.sink(40, 0), SaltWedge.UNKNOWN);
+        Check.refused("sink(-1, 5) of six", Check::sixWells, y -> y.sink(-1, 5), SaltWedge.UNKNOWN);
         Check.refused("sink(-1, 31)", Check::fresh, y -> y.sink(-1, 31), SaltWedge.UNKNOWN);
 
         Doc.says("BAD_VALUE;");
-        Check.refused("sink(3, 31) beside one of six", WellsTest::six, y -> y.sink(3, 31), SaltWedge.BAD_VALUE);
-        Check.refused("sink(1, 0) of six", WellsTest::six, y -> y.sink(1, 0), SaltWedge.BAD_VALUE);
+        Check.refused("sink(3, 31) beside one of six", Check::sixWells, y -> y.sink(3, 31), SaltWedge.BAD_VALUE);
+        Check.refused("sink(1, 0) of six", Check::sixWells, y -> y.sink(1, 0), SaltWedge.BAD_VALUE);
         Check.refused("sink(1, 0) beside one", Check::some, y -> y.sink(1, 0), SaltWedge.BAD_VALUE);
 
         Doc.says("NOT_POSSIBLE if there is one beside this cell;");
-        Check.refused("sink(3, 5) beside one of six", WellsTest::six, y -> y.sink(3, 5), SaltWedge.NOT_POSSIBLE);
-        Check.refused("sink(15, 5) beside the last of six", WellsTest::six, y -> y.sink(15, 5),
+        Check.refused("sink(3, 5) beside one of six", Check::sixWells, y -> y.sink(3, 5), SaltWedge.NOT_POSSIBLE);
+        Check.refused("sink(15, 5) beside the last of six", Check::sixWells, y -> y.sink(15, 5),
             SaltWedge.NOT_POSSIBLE);
         Check.refused("sink(1, 30) beside one that rests", Check::some, y -> y.sink(1, 30), SaltWedge.NOT_POSSIBLE);
         Check.act("sink(2, 30) next to it", Check::some, y -> y.sink(2, 30), 4);
 
         Doc.says("FULL if there are 6.");
-        Check.refused("sink(1, 5) of six", WellsTest::six, y -> y.sink(1, 5), SaltWedge.FULL);
+        Check.refused("sink(1, 5) of six", Check::sixWells, y -> y.sink(1, 5), SaltWedge.FULL);
         Check.act("sink(1, 5) of five", y -> {
-            six(y);
+            Check.sixWells(y);
             y.fillIn(2);
         }, y -> y.sink(1, 5), 5);
         Check.act("sink(6, 5), where one of six was", y -> {
-            six(y);
+            Check.sixWells(y);
             y.fillIn(2);
         }, y -> y.sink(6, 5), 5);
     }
@@ -367,7 +360,7 @@ public final class WellsTest {
     private static void fillIn() {
         Doc.section("Promise 7: fillIn");
         Doc.says("`int fillIn(int well)`: Fills a well in.");
-        SaltWedge x = Check.made(WellsTest::six);
+        SaltWedge x = Check.made(Check::sixWells);
         x.dig(6, 1);
         x.tide(30, 4);
         int[] salts = new int[6];
@@ -397,7 +390,7 @@ public final class WellsTest {
         Doc.says("- `well`: a well");
         Check.act("fillIn(0)", Check::some, y -> y.fillIn(0), 56);
         Check.act("fillIn(3)", Check::some, y -> y.fillIn(3), 12);
-        Check.act("fillIn(5) of six", WellsTest::six, y -> y.fillIn(5), 0);
+        Check.act("fillIn(5) of six", Check::sixWells, y -> y.fillIn(5), 0);
 
         Doc.says("Returns its salt;");
         SaltWedge z = Check.made(Check::some);
@@ -409,7 +402,7 @@ public final class WellsTest {
         Doc.says("UNKNOWN.");
         Check.due("fillIn(0) without wells", z.fillIn(0), SaltWedge.UNKNOWN);
         Check.refusedBeyond("fillIn(..)", SaltWedge::fillIn, 0, 3, SaltWedge.UNKNOWN);
-        Check.refused("fillIn(6) of six", WellsTest::six, y -> y.fillIn(6), SaltWedge.UNKNOWN);
+        Check.refused("fillIn(6) of six", Check::sixWells, y -> y.fillIn(6), SaltWedge.UNKNOWN);
         Check.refused("fillIn(0) of none", Check::fresh, y -> y.fillIn(0), SaltWedge.UNKNOWN);
     }
 
@@ -480,7 +473,7 @@ public final class WellsTest {
 
         Doc.says("- `well`: a well");
         Check.act("setRate(0, 5) of some", Check::some, y -> y.setRate(0, 5), 30);
-        Check.act("setRate(5, 5) of six", WellsTest::six, y -> y.setRate(5, 5), 6);
+        Check.act("setRate(5, 5) of six", Check::sixWells, y -> y.setRate(5, 5), 6);
         Check.refusedBeyond("setRate(.., 5)", (y, well) -> y.setRate(well, 5), 0, 3, SaltWedge.UNKNOWN);
 
         Doc.says("- `rate`: 1 to 30");
@@ -496,7 +489,7 @@ public final class WellsTest {
         Doc.says("UNKNOWN;");
         Check.refused("setRate(4, 31)", Check::some, y -> y.setRate(4, 31), SaltWedge.UNKNOWN);
         Check.refused("setRate(-1, 0)", Check::some, y -> y.setRate(-1, 0), SaltWedge.UNKNOWN);
-        Check.refused("setRate(6, 5) of six", WellsTest::six, y -> y.setRate(6, 5), SaltWedge.UNKNOWN);
+        Check.refused("setRate(6, 5) of six", Check::sixWells, y -> y.setRate(6, 5), SaltWedge.UNKNOWN);
         Check.refused("setRate(0, 5) of none", Check::fresh, y -> y.setRate(0, 5), SaltWedge.UNKNOWN);
 
         Doc.says("BAD_VALUE;");
