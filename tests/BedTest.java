@@ -1,7 +1,6 @@
 /** The bed and the wedge, and promises 1 to 5: a new object, dig, build, flow, set. */
 public final class BedTest {
     public static void main(String[] args) {
-        whatItIs();
         bed();
         wedge();
         newObject();
@@ -13,24 +12,6 @@ public final class BedTest {
         set();
         setErrors();
         Check.end();
-    }
-
-    private static void whatItIs() {
-        Doc.section("What it is");
-        Doc.leaves("Saltwater wedge under a river mouth with tides, sills and wells: a river bed of cells from the sea "
-            + "upward, fresh water that flows down over a wedge of salt water, tides that push and draw it, sills that "
-            + "stop it, how far the wedge reaches, wells in the bank that draw water and suck salt up in cones, "
-            + "droughts in which the wedge creeps upward, gates that are shut, wells that turn salt and rest, why a "
-            + "cell or a well is salt, the tide at which a well turns salt, the least river that keeps the wedge out, "
-            + "the best place of a sill, tides that are read from a text with the places of faults and the causes of "
-            + "stops, accounts that add up, undo and a snapshot.");
-
-        Doc.says("An object is used for at most 512 calls after it has been made; what later calls answer is free.");
-        SaltWedge x = new SaltWedge();
-        for (int call = 1; call <= 511; call++) {
-            Check.due("call " + call, x.tide(0, 99), 10);
-        }
-        Check.due("the call 512", x.count(0), 511 * 99);
     }
 
     private static void bed() {

@@ -27,7 +27,7 @@ final class Doc {
     static void section(String next) {
         end();
         heading = next;
-        left = SECTIONS.getOrDefault(next, "");
+        left = wordsOf(next);
         if (left.isEmpty() && isHere()) {
             Check.complain("the document has no section " + next);
         }
@@ -72,6 +72,11 @@ final class Doc {
             Check.complain("nothing is checked of " + heading + ": " + piece);
         }
         piece = "";
+    }
+
+    /** All that the document says under a heading, with single spaces; nothing if it is not here. */
+    static String wordsOf(String name) {
+        return SECTIONS.getOrDefault(name, "");
     }
 
     static boolean isHere() {

@@ -1,10 +1,19 @@
+import java.io.IOException;
+import java.nio.file.Files;
+import java.nio.file.Path;
+import java.util.ArrayList;
+import java.util.List;
+import java.util.regex.Matcher;
+import java.util.regex.Pattern;
+
 /** The errors of the document's terms: their order, NONE, and that nothing is changed. */
 public final class ErrorsTest {
-    public static void main(String[] args) {
+    public static void main(String[] args) throws IOException {
         order();
         none();
         nothingIsChanged();
         constants();
+        whatTheInterfaceSays();
         Check.end();
     }
 
@@ -102,12 +111,41 @@ public final class ErrorsTest {
         Doc.says("`NONE = -5`: There is no such thing; not an error.");
         Check.due("NONE", SaltWedge.NONE, -5);
         Check.tells("a well beside a cell", x -> x.cell(0, 3), -5);
+    }
 
-        Doc.leaves("Ahead of the calls `dig`, `build`, `flow`, `set` the interface says: ---- the bed.");
-        Doc.leaves("Ahead of the calls `sink`, `fillIn`, `setRate`, `tide` the interface says: ---- wells, tides.");
-        Doc.leaves("Ahead of the calls `type`, `clearText`, `perform`, `stopped` the interface says: ---- texts.");
-        Doc.leaves("Ahead of the calls `undo`, `keep`, `restore` the interface says: ---- history.");
-        Doc.leaves("Ahead of the calls `cell`, `well`, `reach`, `mark`, `stopCell`, `reason`, `restsIn`, `leastFlow`, "
+    private static void whatTheInterfaceSays() throws IOException {
+        Doc.says("Ahead of the calls `dig`, `build`, `flow`, `set` the interface says: ---- the bed.");
+        stand("the bed", "dig", "build", "flow", "set");
+
+        Doc.says("Ahead of the calls `sink`, `fillIn`, `setRate`, `tide` the interface says: ---- wells, tides.");
+        stand("wells, tides", "sink", "fillIn", "setRate", "tide");
+
+        Doc.says("Ahead of the calls `type`, `clearText`, `perform`, `stopped` the interface says: ---- texts.");
+        stand("texts", "type", "clearText", "perform", "stopped");
+
+        Doc.says("Ahead of the calls `undo`, `keep`, `restore` the interface says: ---- history.");
+        stand("history", "undo", "keep", "restore");
+
+        Doc.says("Ahead of the calls `cell`, `well`, `reach`, `mark`, `stopCell`, `reason`, `restsIn`, `leastFlow`, "
             + "`bestSill`, `count` the interface says: ---- what is told.");
+        stand("what is told", "cell", "well", "reach", "mark", "stopCell", "reason", "restsIn", "leastFlow",
+            "bestSill", "count");
+    }
+
+    /** In the source these calls, and no others, stand behind the words. */
+    private static void stand(String words, String... calls) throws IOException {
+        String source = Files.readString(Path.of("src/main/java/SaltWedge.java"));
+        int from = source.indexOf("    // ---- " + words + "\n");
+        Check.hold("the source says ---- " + words, from >= 0);
+        if (from < 0) {
+            return;
+        }
+        int to = source.indexOf("    // ---- ", from + 1);
+        List<String> found = new ArrayList<>();
+        Matcher call = Pattern.compile("public int (\\w+)\\(").matcher(source.substring(from, to < 0 ? source.length() : to));
+        while (call.find()) {
+            found.add(call.group(1));
+        }
+        Check.hold("behind ---- " + words + " stand " + found, found.equals(List.of(calls)));
     }
 }

@@ -27,13 +27,28 @@ public final class FaceTest {
         + "package|equals|hashCode|toString|System\\.out|Random|Thread)\\b|->|::";
 
     public static void main(String[] args) throws IOException {
-        Check.under("The public face");
+        Doc.section("The public face");
+        Doc.says("```java " + faceOfTheSource() + " ```");
         face();
         constants();
+        Doc.end();
         Check.under("LANGUAGE.md");
         classesInside();
         words();
         Check.end();
+    }
+
+    /** The public lines of the source, in their order and with the names of their arguments. */
+    private static String faceOfTheSource() throws IOException {
+        StringBuilder face = new StringBuilder();
+        for (String line : Files.readAllLines(SOURCE)) {
+            if (line.startsWith("public ")) {
+                face.append(line);
+            } else if (line.startsWith("    public ")) {
+                face.append(" ").append(line.strip().replace(" {", ";"));
+            }
+        }
+        return face.append(" }").toString();
     }
 
     private static void face() {

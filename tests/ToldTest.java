@@ -48,6 +48,12 @@ public final class ToldTest {
         z.tide(-9, 4);
         Check.due("tides that come back count", z.tide(-30, 7) + z.tide(-9, 2), 1);
         Check.due("four and two", z.cell(0, 4), 6);
+        SaltWedge w = new SaltWedge();
+        w.tide(10, 4);
+        w.tide(-30, 3);
+        Check.due("salt water that is left behind tides with a mark of 0 counts", w.cell(0, 4), 7);
+        w.tide(-30, 9);
+        Check.due("what is gone does not count", w.cell(0, 4), 7);
     }
 
     private static void cellErrors() {

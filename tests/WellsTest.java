@@ -146,6 +146,7 @@ public final class WellsTest {
         y.tide(10, 1);
         Check.due("17 and a cone of 0, of 16", y.well(0, 2), 1);
         Check.due("16 and a cone of 0, of 16", y.well(1, 2), 0);
+        deepFlood();
 
         Doc.says("otherwise it gets rid of 2 of its salt, at least 0 stays.");
         x.build(0, 7);
@@ -166,6 +167,26 @@ public final class WellsTest {
         z.tide(-30, 1);
         Check.due("2 less 2", z.well(0, 2), 0);
         Check.due("it never rested", z.well(0, 3) + z.well(0, 6), 0);
+    }
+
+    /** No salt is too much: a sill that is built under a wedge of 60 leaves nothing of the depth. */
+    private static void deepFlood() {
+        SaltWedge x = new SaltWedge();
+        x.dig(0, 60);
+        x.set(0, 60);
+        x.set(2, 60);
+        x.flow(0);
+        x.sink(0, 24);
+        x.tide(0, 2);
+        Check.due("60 and 24 of 60, twice", x.well(0, 2), 48);
+        x.set(2, 1);
+        x.build(0, 60);
+        x.setRate(0, 30);
+        x.tide(0, 1);
+        Check.due("59 and 30 of 0", x.well(0, 2), 48 + 89);
+        Check.due("it rests", x.well(0, 3), 1);
+        x.tide(0, 30);
+        Check.due("30 tides on", x.well(0, 2), 48 + 89 - 60);
     }
 
     private static void turningSalt() {
@@ -235,6 +256,14 @@ public final class WellsTest {
         z.tide(0, 10);
         Check.due("a second time: rests", z.well(0, 3), 1);
         Check.due("a second time: turned", z.well(0, 6), 2);
+        SaltWedge w = with40();
+        w.setRate(0, 20);
+        w.tide(0, 1);
+        w.set(2, 1);
+        w.build(0, 20);
+        w.tide(0, 1);
+        Check.due("at rest: a wedge of 9, of which nothing is left", w.cell(0, 2), 9);
+        Check.due("at rest: it gets none of it", w.well(0, 2), 48);
     }
 
     private static void allAtOnce() {
