@@ -114,6 +114,7 @@ public final class BedTest {
         Check.due("the cell above", x.cell(13, 0), 20);
         x.dig(12, 7);
         Check.due("the cell, less deep", x.cell(12, 0), 7);
+        digEachDepth();
 
         Doc.says("This is an act.");
         Check.act("dig(3, 60)", Check::fresh, y -> y.dig(3, 60), 20);
@@ -128,6 +129,26 @@ public final class BedTest {
         Check.act("dig(30, 1)", Check::some, y -> y.dig(30, 1), 11);
         Check.act("dig(30, 60)", Check::some, y -> y.dig(30, 60), 11);
         Check.refusedBeyond("dig(30, ..)", (y, depth) -> y.dig(30, depth), 1, 60, SaltWedge.BAD_VALUE);
+    }
+
+    private static void digEachDepth() {
+        SaltWedge some = Check.made(Check::some);
+        for (int cell = 0; cell < 40; cell++) {
+            int least = Math.max(some.cell(cell, 1), some.cell(cell, 2));
+            int previous = some.cell(cell, 0);
+            for (int depth = 1; depth <= 60; depth++) {
+                int dug = cell;
+                int to = depth;
+                String what = "dig(" + cell + ", " + depth + ")";
+                if (depth < least) {
+                    Check.changes(what, x -> x.dig(dug, to), SaltWedge.NOT_POSSIBLE);
+                } else if (depth == previous) {
+                    Check.changes(what, x -> x.dig(dug, to), SaltWedge.NONE);
+                } else {
+                    Check.changes(what, x -> x.dig(dug, to), previous, "cell(" + cell + ", 0)");
+                }
+            }
+        }
     }
 
     private static void digErrors() {
@@ -178,6 +199,7 @@ public final class BedTest {
         x.tide(0, 2);
         x.build(3, 5);
         Check.due("the wedge stays as it is", x.cell(3, 2), 7);
+        buildEachSill();
 
         Doc.says("This is an act.");
         Check.act("build(3, 20)", Check::fresh, y -> y.build(3, 20), 0);
@@ -194,6 +216,26 @@ public final class BedTest {
         Check.act("build(38, 60)", y -> y.dig(38, 60), y -> y.build(38, 60), 0);
         Check.act("build(38, 1)", Check::some, y -> y.build(38, 1), 0);
         Check.refusedBeyond("build(25, ..)", (y, sill) -> y.build(25, sill), 0, 60, SaltWedge.BAD_VALUE);
+    }
+
+    private static void buildEachSill() {
+        SaltWedge some = Check.made(Check::some);
+        for (int cell = 0; cell < 40; cell++) {
+            int most = some.cell(cell, 0);
+            int previous = some.cell(cell, 1);
+            for (int sill = 0; sill <= 60; sill++) {
+                int built = cell;
+                int to = sill;
+                String what = "build(" + cell + ", " + sill + ")";
+                if (sill > most) {
+                    Check.changes(what, x -> x.build(built, to), SaltWedge.NOT_POSSIBLE);
+                } else if (sill == previous) {
+                    Check.changes(what, x -> x.build(built, to), SaltWedge.NONE);
+                } else {
+                    Check.changes(what, x -> x.build(built, to), previous, "cell(" + cell + ", 1)");
+                }
+            }
+        }
     }
 
     private static void buildErrors() {
@@ -231,6 +273,11 @@ public final class BedTest {
         x.flow(17);
         Check.due("count(1)", x.count(1), 17);
         Check.due("mark(0, 0)", x.mark(0, 0), 3);
+        for (int value = 0; value <= 99; value++) {
+            int flow = value;
+            String[] changed = flow == 10 ? new String[0] : new String[] {"count(1)"};
+            Check.changes("flow(" + flow + ")", y -> y.flow(flow), flow == 10 ? SaltWedge.NONE : 10, changed);
+        }
 
         Doc.says("This is an act.");
         Check.act("flow(5)", Check::fresh, y -> y.flow(5), 10);
@@ -266,6 +313,9 @@ public final class BedTest {
         Check.due("mark(1, 0)", x.mark(1, 0), 18);
         x.tide(0, 1);
         Check.due("cell(0, 2)", x.cell(0, 2), 7);
+        setEach(0, 0, 60, 20);
+        setEach(1, 0, 9, 1);
+        setEach(2, 1, 60, 5);
 
         Doc.says("This is an act.");
         Check.act("set(0, 5)", Check::fresh, y -> y.set(0, 5), 20);
@@ -287,6 +337,15 @@ public final class BedTest {
             Check.act("set(" + which + ", the most)", Check::some, y -> y.set(which, most[which]), first[which]);
             Check.refusedBeyond("set(" + which + ", ..)", (y, value) -> y.set(which, value), least[which], most[which],
                 SaltWedge.BAD_VALUE);
+        }
+    }
+
+    private static void setEach(int which, int least, int most, int previous) {
+        for (int each = least; each <= most; each++) {
+            int value = each;
+            String[] changed = value == previous ? new String[0] : new String[] {"count(" + (9 + which) + ")"};
+            int want = value == previous ? SaltWedge.NONE : previous;
+            Check.changes("set(" + which + ", " + value + ")", x -> x.set(which, value), want, changed);
         }
     }
 

@@ -1,5 +1,10 @@
 import java.util.ArrayList;
+import java.util.HashMap;
 import java.util.List;
+import java.util.Map;
+import java.util.Objects;
+import java.util.Set;
+import java.util.TreeSet;
 
 /** What the tests share: counting wrong answers, typing texts, comparing whole objects. */
 final class Check {
@@ -24,6 +29,8 @@ final class Check {
     private static final List<Look> LOOKS = List.of(Check::state, Check::history, x -> undone(x, 1),
         x -> undone(x, 2), x -> undone(x, 3), x -> undone(x, 4), x -> undone(x, 5), Check::restored,
         Check::performed, Check::ofTheText, Check::behindTides);
+
+    private static final Map<String, Integer> OF_SOME = told(made(Check::some));
 
     private static int wrong = 0;
     private static int checks = 0;
@@ -175,6 +182,44 @@ final class Check {
             untouched.undo();
             same(what + ", then undo() twice", brief(called), brief(untouched));
         }
+    }
+
+    /** Of `some`, the call changes what these calls tell, as "cell(3, 0)", and nothing else. */
+    static void changes(String what, Call call, int want, String... calls) {
+        SaltWedge called = made(Check::some);
+        due(what, call.on(called), want);
+        Set<String> wanted = new TreeSet<>(List.of(calls));
+        Set<String> changed = changed(called);
+        hold(what + " changes " + wanted + ", and " + changed, changed.equals(wanted));
+    }
+
+    /** The calls that tell something else than of `some`. */
+    static Set<String> changed(SaltWedge wedge) {
+        Map<String, Integer> told = told(wedge);
+        Set<String> changed = new TreeSet<>(told.keySet());
+        changed.addAll(OF_SOME.keySet());
+        changed.removeIf(call -> Objects.equals(told.get(call), OF_SOME.get(call)));
+        return changed;
+    }
+
+    private static Map<String, Integer> told(SaltWedge wedge) {
+        Map<String, Integer> told = new HashMap<>();
+        for (int cell = 0; cell < 40; cell++) {
+            for (int what = 0; what <= 4; what++) {
+                told.put("cell(" + cell + ", " + what + ")", wedge.cell(cell, what));
+            }
+        }
+        for (int what = 0; what <= 13; what++) {
+            told.put("count(" + what + ")", wedge.count(what));
+        }
+        for (int well = 0; well < wedge.count(4); well++) {
+            for (int what = 0; what <= 6; what++) {
+                told.put("well(" + well + ", " + what + ")", wedge.well(well, what));
+            }
+        }
+        told.put("stopped(0)", wedge.stopped(0));
+        told.put("stopped(1)", wedge.stopped(1));
+        return told;
     }
 
     /** The whole state, without the history and the text. */

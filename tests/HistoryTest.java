@@ -209,6 +209,7 @@ public final class HistoryTest {
         Check.due("tides", x.tide(30, 9), 20);
         Check.due("the snapshot is not changed by tides", x.restore(), 7);
         Check.due("it is no act", new SaltWedge().keep() + x.count(12), 4);
+        Check.changes("keep()", SaltWedge::keep, 5);
 
         Doc.says("Returns how many tides there were so far.");
         SaltWedge y = new SaltWedge();

@@ -273,6 +273,10 @@ public final class TextsTest {
         Check.due("perform()", x.perform(), 1);
         Check.due("they stand in their order", x.count(1), 73);
         Check.due("it is no act", x.count(12), 1);
+        for (int any = 0; any < 65536; any += 97) {
+            char sign = (char) any;
+            Check.changes("type " + any, y -> y.type(sign), 9, "count(13)");
+        }
 
         Doc.says("- `character`: any character");
         char[] any = {'t', (char) 0, (char) 65535, ' ', 'T', (char) 233, '\n', (char) 55296, (char) 127};
@@ -304,6 +308,7 @@ public final class TextsTest {
         Check.due("count(13)", x.count(13), 0);
         Check.due("perform()", x.perform(), -100);
         Check.due("it is no act", x.count(12), 0);
+        Check.changes("clearText()", SaltWedge::clearText, 8, "count(13)");
         x.type('r');
         Check.due("nothing of the old text is left", x.perform(), -101);
         Check.write(x, "t".repeat(60));

@@ -1,3 +1,5 @@
+import java.util.Set;
+
 /** The tides, and promise 9: tide. */
 public final class TidesTest {
     public static void main(String[] args) {
@@ -227,6 +229,13 @@ public final class TidesTest {
         }
         Check.same("40 tides, and 40 times one", Check.state(x), Check.state(y));
         Check.due("40 tides: count(0)", x.count(0), 40);
+        for (int rise = -30; rise <= 30; rise++) {
+            SaltWedge some = Check.made(Check::some);
+            some.tide(rise, 3 + rise % 2);
+            Set<String> changed = Check.changed(some);
+            changed.removeIf(call -> call.matches("cell\\(\\d+, [24]\\)|count\\([0235678]\\)|well\\(\\d, [2-6]\\)"));
+            Check.hold("tide(" + rise + ", ..) does not change " + changed, changed.isEmpty());
+        }
 
         Doc.says("This is an act.");
         Check.act("tide(0, 1)", Check::some, z -> z.tide(0, 1), 15);

@@ -1,3 +1,6 @@
+import java.util.ArrayList;
+import java.util.List;
+
 /** The wells, and promises 6 to 8: sink, fillIn, setRate. */
 public final class WellsTest {
     /** What a well has none of at first: its salt, whether it rests, its water, how often it turned. */
@@ -334,6 +337,8 @@ public final class WellsTest {
             Check.due("well(0, " + what + ")", x.well(0, what), 0);
         }
 
+        sinkEach();
+
         Doc.says("This is an act.");
         Check.act("sink(20, 5)", Check::fresh, y -> y.sink(20, 5), 0);
         Check.act("sink(20, 5) of some", Check::some, y -> y.sink(20, 5), 4);
@@ -347,6 +352,32 @@ public final class WellsTest {
         Check.act("sink(20, 1)", Check::some, y -> y.sink(20, 1), 4);
         Check.act("sink(20, 30)", Check::some, y -> y.sink(20, 30), 4);
         Check.refusedBeyond("sink(20, ..)", (y, rate) -> y.sink(20, rate), 1, 30, SaltWedge.BAD_VALUE);
+    }
+
+    /** Of `some`, the wells beside 6 and 12 have a cone that a new one can make less. */
+    private static void sinkEach() {
+        SaltWedge some = Check.made(Check::some);
+        for (int cell = 0; cell < 40; cell++) {
+            for (int each = 1; each <= 30; each++) {
+                int beside = cell;
+                int rate = each;
+                String what = "sink(" + cell + ", " + rate + ")";
+                if (some.cell(cell, 3) != SaltWedge.NONE) {
+                    Check.changes(what, x -> x.sink(beside, rate), SaltWedge.NOT_POSSIBLE);
+                    continue;
+                }
+                List<String> changed = new ArrayList<>(List.of("cell(" + cell + ", 3)", "count(4)"));
+                for (int told = 0; told <= 6; told++) {
+                    changed.add("well(4, " + told + ")");
+                }
+                if (cell == 7) {
+                    changed.add("well(2, 4)");
+                } else if (cell == 11 || cell == 13) {
+                    changed.add("well(3, 4)");
+                }
+                Check.changes(what, x -> x.sink(beside, rate), 4, changed.toArray(new String[0]));
+            }
+        }
     }
 
     private static void sinkErrors() {
@@ -411,6 +442,8 @@ public final class WellsTest {
             Check.due("the new one has nothing of an old one", x.well(5, what), 0);
         }
         fillInThoseThatRest();
+        Check.changes("fillIn(3), the last one", y -> y.fillIn(3), 12, "cell(12, 3)", "count(4)", "count(6)", "count(7)",
+            "well(3, 0)", "well(3, 1)", "well(3, 2)", "well(3, 3)", "well(3, 4)", "well(3, 5)", "well(3, 6)");
 
         Doc.says("This is an act.");
         Check.act("fillIn(2) of one", y -> y.sink(9, 9), y -> y.fillIn(0), 0);
@@ -495,6 +528,15 @@ public final class WellsTest {
         Check.due("one that rests: the rate", x.well(0, 1), 7);
         Check.due("one that rests: it rests", x.well(0, 3), 1);
         Check.due("one that rests: its salt", x.well(0, 2), 56);
+        for (int each = 1; each <= 30; each++) {
+            int rate = each;
+            if (rate != 30) {
+                Check.changes("setRate(0, " + rate + "), at rest", y -> y.setRate(0, rate), 30, "well(0, 1)");
+            }
+            if (rate != 15) {
+                Check.changes("setRate(3, " + rate + ")", y -> y.setRate(3, rate), 15, "well(3, 1)", "well(3, 4)");
+            }
+        }
 
         Doc.says("This is an act.");
         Check.act("setRate(0, 5)", y -> y.sink(9, 9), y -> y.setRate(0, 5), 9);
